@@ -129,7 +129,7 @@ public final class SlabPatterns {
             case 3:
                 return pattern.length[k];
             default:
-                return pattern.across[k];
+                return pattern.copiesAcross[k];
         }
     }
 
@@ -363,8 +363,7 @@ public final class SlabPatterns {
         private final boolean[] turned = new boolean[MOST_STRIPS];
         private final int[] begin = new int[MOST_STRIPS];
         private final int[] length = new int[MOST_STRIPS];
-        /** Copies across the strip. */
-        private final int[] across = new int[MOST_STRIPS];
+        private final int[] copiesAcross = new int[MOST_STRIPS];
 
         private boolean has(int k) {
             return k >= 0 && k < count && k < MOST_STRIPS;
@@ -378,7 +377,7 @@ public final class SlabPatterns {
             int sum = 0;
             for (int k = 0; k < amongFirst && k < MOST_STRIPS; k++) {
                 if (piece[k] == wantedPiece) {
-                    sum += across[k];
+                    sum += copiesAcross[k];
                 }
             }
             return sum;
@@ -391,7 +390,7 @@ public final class SlabPatterns {
                 turned[k] = other.turned[k];
                 begin[k] = other.begin[k];
                 length[k] = other.length[k];
-                across[k] = other.across[k];
+                copiesAcross[k] = other.copiesAcross[k];
             }
         }
 
@@ -403,7 +402,7 @@ public final class SlabPatterns {
             boolean offBars = !slab.isBarred(begin[k]) && !slab.isBarred(endOf(k));
             return inPlate && offBars
                     && copiesOf(piece[k], k + 1) <= wanted.manyOf(piece[k])
-                    && across[k] <= slab.mostAcross(wanted.acrossOf(piece[k], turned[k]));
+                    && copiesAcross[k] <= slab.mostAcross(wanted.acrossOf(piece[k], turned[k]));
         }
 
         private void stretch(Slab slab, Wanted wanted) {
@@ -524,7 +523,7 @@ public final class SlabPatterns {
             trial.turned[k] = kinds.turned[kind];
             trial.begin[k] = nextBegin[k];
             trial.length[k] = kinds.length[kind];
-            trial.across[k] = number;
+            trial.copiesAcross[k] = number;
             trial.count = k + 1;
             use(piece, number);
             nextKind[k] = kind + 1;
@@ -539,7 +538,7 @@ public final class SlabPatterns {
                 return;
             }
             trial.count = k;
-            use(trial.piece[k], -trial.across[k]);
+            use(trial.piece[k], -trial.copiesAcross[k]);
         }
 
         /** Of patterns as good the one found first stays: the search goes in their order. */

@@ -112,6 +112,7 @@ public final class PromiseTest {
     due(when + ": the first bar", x.bar(2, 200), 1);
     x.plate(40, 21, 0);
     due(when + ": 20 knives, two stages, no kerf", x.run(20), 50 * 20);
+    dueStrips(when + ": 20 copies in one strip", x, 2, 0, 0, 2, 20);
   }
 
   private static void newObject() {
@@ -390,6 +391,12 @@ public final class PromiseTest {
     x.bar(29, 31);
     x.run(100);
     dueStrips("held by bars", x, 0, 0, 0, 8, 1, 0, 0, 10, 8, 1, 0, 0, 20, 9, 1);
+    SlabPatterns begins = plated(30, 10, 2);
+    begins.want(8, 10, 10, 1, 20);
+    begins.bar(11, 13);
+    begins.run(100);
+    dueStrips("a begin behind it in a bar", begins,
+        0, 0, 0, 9, 1, 0, 0, 11, 9, 1, 0, 0, 22, 8, 1);
     SlabPatterns y = plated(40, 10, 0);
     y.want(10, 14, 10, 1, 2);
     y.want(12, 12, 10, 1, 1);

@@ -37,7 +37,7 @@ public final class RoomTest {
     long later = bytesMade() - before;
     System.out.println("made: " + made + " bytes at first, " + later + " bytes later; " + sum);
     // Some allowance for what the machine itself makes on the way.
-    if (made > 20000 || later > 4000) {
+    if (made > 20000 || later > 8000) {
       System.out.println("that is too much");
       System.exit(1);
     }
