@@ -493,7 +493,8 @@ public final class SlabPatterns {
             if (isOutside(k, 0, MOST_STRIPS - 1) || slab.isBarred(nextBegin[k])) {
                 return NONE;
             }
-            for (int kind = nextKind[k]; kind < kinds.count && kind < MOST_KINDS; kind++) {
+            int from = Math.max(0, nextKind[k]);
+            for (int kind = from; kind < kinds.count && kind < MOST_KINDS; kind++) {
                 int end = nextBegin[k] + kinds.length[kind];
                 if (end <= slab.lastEnd() && !slab.isBarred(end) && leftOf(kinds.piece[kind]) > 0) {
                     return kind;

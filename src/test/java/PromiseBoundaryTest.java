@@ -577,6 +577,29 @@ public final class PromiseBoundaryTest {
       y.clear();
       isAs(state + " cleared twice", y, State.NEW);
     }
+    int[][] rules = {{1, 20, 0, 0, 10}, {2, 0, 0, 0, 10}, {2, 20, 1, 0, 10}, {2, 20, 0, 1, 10},
+        {2, 20, 0, 0, 11}, {2, 20, 0, 0, 9}, {1, 0, 200, 200, 200}};
+    for (int[] r : rules) {
+      SlabPatterns x = new SlabPatterns();
+      x.rules(r[0], r[1], r[2], r[3], r[4]);
+      x.clear();
+      isAs("rules " + java.util.Arrays.toString(r) + " cleared", x, State.NEW);
+    }
+    for (int bars = 1; bars <= 4; bars++) {
+      SlabPatterns x = State.NEW.make();
+      for (int bar = 0; bar < bars; bar++) {
+        x.bar(50 * bar, 50 * bar + 50);
+      }
+      x.clear();
+      isAs(bars + " bars cleared", x, State.NEW);
+    }
+    SlabPatterns turned = new SlabPatterns();
+    for (int piece = 0; piece < 5; piece++) {
+      turned.want(1, 1, 1, 1, 1);
+      turned.turn(piece, true);
+    }
+    turned.clear();
+    isAs("pieces that may be turned cleared", turned, State.NEW);
   }
 
   private void calls() {

@@ -101,6 +101,10 @@ public final class TermsBoundaryTest {
       due.is("kerf " + kerf + ", a length too short", x.run(9), 2);
       x.plate(10 + kerf, 5 + kerf, kerf);
       due.is("kerf " + kerf + ", a width too small", x.run(9), 2);
+      SlabPatterns whole = line(200, kerf);
+      whole.want(200, 200, 1, 1, 20);
+      due.is("kerf " + kerf + " behind the longest plate", whole.run(9), 1);
+      due.is("kerf " + kerf + " behind the longest plate", whole.rest(0), 0);
     }
   }
 
@@ -196,6 +200,18 @@ public final class TermsBoundaryTest {
     due.is("all that can be wanted", most.strips(), 100);
     due.is("the last of all strips", most.strip(99, 0), 4);
     due.refused("no strip behind it", Due.RANGE, () -> most.strip(100, 0));
+    // Two copies turned are one strip less than two that are not: the search must come back.
+    SlabPatterns back = plated(200, 2, 0);
+    for (int piece = 0; piece < 5; piece++) {
+      back.want(1, 1, 2, 100000, 20);
+      back.turn(piece, true);
+    }
+    for (int nodes = 100; nodes <= 102; nodes++) {
+      due.is("all that can be wanted by " + nodes, back.run(nodes), 10000000);
+      due.is("all that can be wanted by " + nodes, back.strips(), nodes < 102 ? 100 : 99);
+    }
+    due.is("the last of 99 is turned", back.strip(98, 1), 1);
+    due.is("the last of 99 has two copies", back.strip(98, 4), 2);
   }
 
   private void turnedPieces() {
@@ -379,6 +395,19 @@ public final class TermsBoundaryTest {
       x.bar(50, 53);
       due.is("an end at " + end, x.run(9), end == 51 || end == 52 ? 0 : 1);
     }
+    for (int place : new int[] {1, 199}) {
+      SlabPatterns edge = line(200, 0);
+      edge.want(place, place, 1, 1, 1);
+      due.is("an end at " + place, edge.run(9), 1);
+      edge.bar(place - 1, place + 1);
+      due.is("an end within a bar at " + place, edge.run(9), 0);
+      SlabPatterns front = line(200, 0);
+      front.want(1, 1, 1, 1, 1);
+      front.rules(2, 20, place, 0, 10);
+      due.is("a begin at " + place, front.run(9), 1);
+      front.bar(place - 1, place + 1);
+      due.is("a begin within a bar at " + place, front.run(9), 0);
+    }
     SlabPatterns over = line(200, 0);
     over.want(200, 200, 1, 1, 1);
     over.bar(1, 199);
@@ -487,14 +516,17 @@ public final class TermsBoundaryTest {
   private void nodes() {
     terms("Promise 7", "THE SEARCH goes on from the front by wanted pieces, not turned, then"
         + " turned, each one strip further;");
+    // Two copies of each as it is, three turned, and no room behind any of them.
     SlabPatterns order = plated(6, 12, 0);
-    order.want(4, 4, 6, 1, 20);
-    order.want(4, 4, 5, 2, 20);
-    order.turn(0, true);
-    order.turn(1, true);
-    int[] worths = {0, 2, 3, 4, 6, 6};
+    int[] pieceWorths = {1, 2, 4, 7, 11};
+    for (int piece = 0; piece < 5; piece++) {
+      order.want(4, 4, 6, pieceWorths[piece], 20);
+      order.turn(piece, true);
+    }
+    int[] worths = {0, 2, 3, 4, 6, 8, 12, 14, 21, 22, 33, 33};
     for (int nodes = 0; nodes < worths.length; nodes++) {
-      due.is("0, 0 turned, 1, 1 turned by " + nodes, order.run(nodes), worths[nodes]);
+      due.is("0, 0 turned, 1, 1 turned, .. by " + nodes, order.run(nodes), worths[nodes]);
+      due.is("all ten are tried by " + nodes, order.proved(), nodes >= 10);
     }
     SlabPatterns further = line(3, 0);
     further.want(1, 1, 1, 1, 20);
@@ -617,6 +649,12 @@ public final class TermsBoundaryTest {
       x.run(9);
       due.strips("10 to 14 by bar " + bar[0] + " " + bar[1], x, 0, 0, 0, bar[2], 1);
     }
+    SlabPatterns own = line(20, 0);
+    own.want(10, 12, 1, 1, 1);
+    own.rules(2, 20, 5, 0, 10);
+    own.bar(5, 15);
+    own.run(9);
+    due.strips("its own begin stays", own, 0, 0, 5, 12, 1);
     SlabPatterns begin = line(30, 2);
     begin.want(8, 10, 1, 1, 1);
     begin.want(9, 9, 1, 1, 1);

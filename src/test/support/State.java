@@ -106,10 +106,14 @@ enum State {
     x.plate(200, 30, 0);
     told.add("run " + answer(() -> x.run(2000)));
     told.addAll(look(x));
+    // Of these each would be better turned, and worse by one stage.
     for (int more = 0; more < 6; more++) {
-      told.add("want " + answer(() -> x.want(2, 2, 2, 1, 1)));
+      told.add("want " + answer(() -> x.want(2, 2, 4, 1, 9)));
       told.add("bar " + answer(() -> x.bar(20, 24)));
     }
+    x.plate(40, 30, 0);
+    told.add("run " + answer(() -> x.run(2000)));
+    told.addAll(look(x));
     x.clear();
     told.addAll(look(x));
     told.add("want " + answer(() -> x.want(1, 1, 1, 3, 20)));
