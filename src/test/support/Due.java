@@ -15,6 +15,8 @@ final class Due {
   static final Class<?> RANGE = IllegalArgumentException.class;
   static final Class<?> MEANING = UnsupportedOperationException.class;
 
+  private static final Path DOCUMENT = Path.of("../shared/DOC.md");
+
   private final Map<String, String> sections = new TreeMap<>();
   private final Map<String, boolean[]> tested = new TreeMap<>();
   private String sentence = "";
@@ -23,8 +25,11 @@ final class Due {
   private int wrong = 0;
 
   Due() throws IOException {
-    String document = Files.readString(Path.of("../shared/DOC.md"));
-    for (String section : document.split("(?m)^## ")) {
+    if (!Files.isReadable(DOCUMENT)) {
+      System.out.println("there is no document here: its words are not looked up");
+      return;
+    }
+    for (String section : Files.readString(DOCUMENT).split("(?m)^## ")) {
       String[] parts = section.split("[:\n]", 2);
       String text = parts.length < 2 ? "" : parts[1];
       // A promise has its name and its signature ahead of its sentences.
@@ -47,6 +52,9 @@ final class Due {
   void sentence(String promise, String section, String words) {
     sentence = promise + ", '" + words + "'";
     sentences++;
+    if (sections.isEmpty()) {
+      return;
+    }
     int at = sections.getOrDefault(section, "").indexOf(words);
     if (at < 0) {
       say("these are no words of the section " + section);
@@ -112,7 +120,7 @@ final class Due {
 
   /** Every word of these sections must have had a test. */
   void allTested(String... names) {
-    for (String name : names) {
+    for (String name : sections.isEmpty() ? new String[0] : names) {
       String text = sections.getOrDefault(name, "");
       if (text.isEmpty()) {
         say("there is no section " + name);
