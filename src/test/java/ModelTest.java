@@ -10,6 +10,9 @@ import java.util.Random;
 public final class ModelTest {
   private static final int RUNS = 4000;
   private static final int CALLS = 60;
+  /** The document lets an object be used for so many calls; every 20th run has them all. */
+  private static final int MOST_CALLS = 512;
+  private static final int LONG_EACH = 20;
 
   private record Piece(int low, int high, int across, int worth, int many) {}
 
@@ -310,7 +313,8 @@ public final class ModelTest {
         int low = 1 + r.nextInt(lengths);
         return new int[] {r.nextInt(40) == 0 ? 0 : low,
             Math.min(200, low + r.nextInt(6)) - (r.nextInt(40) == 0 ? 9 : 0),
-            1 + r.nextInt(lengths), r.nextInt(r.nextBoolean() ? 4 : 100001), near(r, 0, 20)};
+            r.nextInt(5) == 0 ? low : 1 + r.nextInt(lengths),
+            r.nextInt(r.nextBoolean() ? 4 : 100001), near(r, 0, 20)};
       case 2:
         return new int[] {near(r, 0, 4), r.nextInt(3)};
       case 3:
@@ -336,7 +340,8 @@ public final class ModelTest {
     SlabPatterns x = new SlabPatterns();
     Model m = new Model();
     List<String> told = new ArrayList<>();
-    for (int i = 0; i < CALLS; i++) {
+    boolean isLong = seed % LONG_EACH == 0;
+    for (int i = 0; i < (isLong ? MOST_CALLS : CALLS); i++) {
       int what = i == 0 ? 0 : i < 4 ? 1 : i == 4 ? 2 : i == 8 ? 5 : r.nextInt(13);
       if (what == 0 && i > 0 && r.nextInt(3) > 0) {
         what = 5;
@@ -357,7 +362,7 @@ public final class ModelTest {
         System.out.println("seed " + seed + ": " + String.join("; ", told) + ", due is " + due);
         return false;
       }
-      if (what == 5 && !sameRow(x, m, told, seed)) {
+      if (what == 5 && !isLong && !sameRow(x, m, told, seed)) {
         return false;
       }
     }

@@ -528,6 +528,19 @@ public final class TermsBoundaryTest {
       due.is("0, 0 turned, 1, 1 turned, .. by " + nodes, order.run(nodes), worths[nodes]);
       due.is("all ten are tried by " + nodes, order.proved(), nodes >= 10);
     }
+    // Turned it is as it was, but the two are two strips to try.
+    SlabPatterns square = plated(6, 6, 0);
+    square.want(6, 6, 6, 1, 1);
+    due.is("a square not to be turned, no nodes", provedBy(square, 0), false);
+    due.is("a square not to be turned, one node", provedBy(square, 1), true);
+    square.turn(0, true);
+    due.is("a square, one node", provedBy(square, 1), false);
+    due.is("a square, two nodes", provedBy(square, 2), true);
+    SlabPatterns squares = plated(12, 6, 0);
+    squares.want(6, 6, 6, 1, 2);
+    squares.turn(0, true);
+    due.is("two squares, five nodes of six", provedBy(squares, 5), false);
+    due.is("two squares, six nodes", provedBy(squares, 6), true);
     SlabPatterns further = line(3, 0);
     further.want(1, 1, 1, 1, 20);
     further.want(3, 3, 1, 10, 20);
