@@ -346,12 +346,14 @@ public final class ModelTest {
       if (what == 0 && i > 0 && r.nextInt(3) > 0) {
         what = 5;
       }
+      // Rarely, since little is there to be asked behind it.
+      if (what == 12 && r.nextInt(8) > 0) {
+        what = 11;
+      }
       if (what == 12) {
-        if (r.nextInt(8) == 0) {
-          x.clear();
-          m = new Model();
-          told.add("clear()");
-        }
+        x.clear();
+        m = new Model();
+        told.add("clear()");
         continue;
       }
       int[] v = arguments(r, what, size);
